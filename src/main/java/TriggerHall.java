@@ -642,7 +642,6 @@ public final class TriggerHall {
         private int held;
         private int layerSum;
         private int spread;
-        private boolean found;
         private int least;
 
         private void along(Road road, int[] seen) {
@@ -652,7 +651,6 @@ public final class TriggerHall {
             for (int layer = 0; layer < LAYERS; layer++) {
                 choices[layer] = road.seenIn(layer, seen);
                 trial[layer] = NOWHERE;
-                cells[layer] = NOWHERE;
                 if (choices[layer] != 0) {
                     held++;
                     layerSum += layer;
@@ -660,8 +658,7 @@ public final class TriggerHall {
                 }
             }
             spread = held * squares - layerSum * layerSum;
-            found = false;
-            least = 0;
+            least = Integer.MAX_VALUE;
             tryCells(0, 0, 0, 0);
         }
 
@@ -685,16 +682,15 @@ public final class TriggerHall {
         }
 
         private boolean isPerfect() {
-            return found && least == 0;
+            return least == 0;
         }
 
         private void takeTrial(int sum, int squares, int slope) {
             int tilt = held * slope - layerSum * sum;
             int above = (held * squares - sum * sum) * spread - tilt * tilt;
-            if (found && above >= least) {
+            if (above >= least) {
                 return;
             }
-            found = true;
             least = above;
             for (int layer = 0; layer < LAYERS; layer++) {
                 cells[layer] = trial[layer];
@@ -718,7 +714,7 @@ public final class TriggerHall {
     /** The heaviest set of tracks without a cell twice. */
     private static final class Heap {
         private final int[] taken = new int[MOST_ROADS * LAYERS];
-        private final int[] clashes = new int[MOST_ROADS];
+        private final int[] clashesAbove = new int[MOST_ROADS];
         private final int[] worths = new int[MOST_ROADS];
         private final int[] worthsUpTo = new int[MOST_ROADS];
         private int size;
@@ -741,11 +737,10 @@ public final class TriggerHall {
             }
             worths[size] = worth;
             worthsUpTo[size] = worth + (size == 0 ? 0 : worthsUpTo[size - 1]);
-            clashes[size] = 0;
+            clashesAbove[size] = 0;
             for (int other = 0; other < size; other++) {
                 if (clash(size, other)) {
-                    clashes[size] |= 1 << other;
-                    clashes[other] |= 1 << size;
+                    clashesAbove[other] |= 1 << size;
                 }
             }
             size++;
@@ -781,7 +776,7 @@ public final class TriggerHall {
                 return;
             }
             chooseFrom(road - 1, chosen, sum);
-            if (worths[road] > 0 && (clashes[road] & chosen) == 0) {
+            if (worths[road] > 0 && (clashesAbove[road] & chosen) == 0) {
                 chooseFrom(road - 1, chosen | 1 << road, sum + worths[road]);
             }
         }
@@ -885,10 +880,6 @@ public final class TriggerHall {
         private Look look;
         private int place;
         private int fault;
-
-        private Reader() {
-            fault = NOWHERE;
-        }
 
         private boolean read(Text newText, Look newLook) {
             text = newText;

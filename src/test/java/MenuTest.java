@@ -181,6 +181,9 @@ public final class MenuTest {
         asks(hall, "w030", 1);
         DUE.is("22: line above", hall.holds(0), TriggerHall.NUMBER);
         DUE.is("22: line below", hall.holds(-1), TriggerHall.NUMBER);
+        hall.hits(4, 0b0010);
+        asks(hall, "r1", 1);
+        asks(hall, "r0&r1&t2&w600", 1);
         TriggerHall dark = new TriggerHall();
         asks(dark, "t0&h0&w0&l0", 1);
         asks(dark, "t1|h1|w1|l1|r0", 0);

@@ -107,6 +107,18 @@ public final class RoadsTest {
         DUE.is("13: though it is higher then", hall.track(0, 2), 2);
         Hall.hits(hall, 0b0011, 0b1000, 0b1000, 0b1000);
         DUE.is("13: the least miss is ahead of the lesser cell", hall.track(0, 0), 1);
+        Hall.hits(hall, 0b1001, 0b1000, 0b1000, 0b1000);
+        DUE.is("13: to the last cell of a span", hall.track(0, 0), 3);
+        Hall.hits(hall, 0b0001, 0b1010, 0b0001, 0);
+        DUE.is("13: the lesser miss is of the lesser cell", hall.track(0, 1), 1);
+        Hall.hits(hall, 0b0010, 0b0101, 0b0010, 0);
+        DUE.is("13: of two alike with a miss the lesser cell", hall.track(0, 1), 0);
+        DUE.is("14: which is", hall.miss(0, 0), 2);
+        hall.mask(1, 0, 0b0001);
+        DUE.is("13: without the dead cell the other", hall.track(0, 1), 2);
+        hall.mask(1, 0, 0b0100);
+        hall.mask(1, 1, 0b0001);
+        DUE.is("12: dead and noisy, none is held", hall.held(0), 0b101);
     }
 
     private static void miss() {
@@ -178,6 +190,8 @@ public final class RoadsTest {
         heaps(hall, "two of three", 0b011, 2, 1000);
         hall.mask(0, 0, 2);
         heaps(hall, "a dead cell", 0b011, 2, 900);
+        Hall.hits(hall, 0, 0, 0, 0, 0);
+        heaps(hall, "nothing is lit any more", 0, 0, 0);
     }
 
     private static void heapOfSeveral() {
@@ -226,7 +240,15 @@ public final class RoadsTest {
         wide(hall, 2);
         wide(hall, 1);
         wide(hall, 3);
-        Hall.hits(hall, 1, 1);
+        Hall.hits(hall, 0, 0, 1, 1, 1);
+        hall.mask(2, 0, 1);
+        hall.mask(3, 0, 1);
+        hall.mask(4, 0, 1);
+        DUE.is("17: dead cells in three layers", hall.blind(), 0b111);
+        for (int layer = 2; layer < 5; layer++) {
+            hall.mask(layer, 0, 0);
+        }
+        Hall.hits(hall, 1, 1, 0, 0, 0);
         DUE.is("17: no cell is dead", hall.blind(), 0);
         hall.mask(0, 0, 1);
         DUE.is("17: lit ones and dark ones aren't blind", hall.blind(), 0b001);
