@@ -27,6 +27,7 @@ public final class TriggerHall {
     private static final int LETTERS_FED = 4;
     private static final int LOST = -1;
     private static final int NOWHERE = -1;
+    private static final int ABOVE_ANY_MISS = 1 << 30;
     private static final int[] NO_CELLS = {0, 0, 0, 0, 0};
 
     private final Sheet[] sheets = {new Sheet(), new Sheet(), new Sheet()};
@@ -658,7 +659,7 @@ public final class TriggerHall {
                 }
             }
             spread = held * squares - layerSum * layerSum;
-            least = Integer.MAX_VALUE;
+            least = ABOVE_ANY_MISS;
             tryCells(0, 0, 0, 0);
         }
 
