@@ -24,7 +24,8 @@ public final class FaceTest {
         "held(int)", "track(int,int)", "miss(int,int)", "weight(int)", "heap(int)", "blind()", "feed(int)",
         "clear()", "line(int,boolean)", "thin(int,int)", "holds(int)", "of(int,int)", "fire()", "rest(int)",
         "many(int)", "raw(int,int)", "again(int)", "anew()"};
-    private static final String[] CONSTANTS = {"NUMBER -1", "FULL -2", "MISSING -3", "SIZE -4", "NONE -5", "FAULT -100"};
+    private static final String[] CONSTANTS = {
+        "NUMBER -1", "FULL -2", "MISSING -3", "SIZE -4", "NONE -5", "FAULT -100"};
     private static final String[] RULED_OUT = {
         "\\bthrow\\b", "\\btry\\b", "\\bcatch\\b", "\\bsynchronized\\b", "\\bassert\\b", "->", "::", "\\w+Exact\\b",
         "\\bSystem\\.(?!arraycopy)", "\\b[Rr]andom\\b", "\\bThread\\b", "\\bObject\\b", "\\bpackage\\b",
@@ -73,7 +74,8 @@ public final class FaceTest {
         List<Class<?>> all = new ArrayList<>(List.of(TriggerHall.class.getDeclaredClasses()));
         for (Class<?> inside : all) {
             DUE.holds("static: " + inside, Modifier.isStatic(inside.getModifiers()));
-            DUE.holds("not for others: " + inside, (inside.getModifiers() & (Modifier.PUBLIC | Modifier.PROTECTED)) == 0);
+            int open = inside.getModifiers() & (Modifier.PUBLIC | Modifier.PROTECTED);
+            DUE.holds("not for others: " + inside, open == 0);
         }
         all.add(TriggerHall.class);
         DUE.holds("at most twelve classes", all.size() <= 12);
