@@ -788,12 +788,19 @@ public final class TriggerHall {
         private final int[] seen = new int[LAYERS];
         private final Fit fit = new Fit();
         private final Heap heap = new Heap();
+        private int cellsSeen;
+        private int layersSeen;
         private int litRoads;
 
         private void see(int[] crossing, int[] deadCells, int[] noisyCells) {
+            layersSeen = 0;
             for (int layer = 0; layer < LAYERS; layer++) {
                 seen[layer] = crossing[layer] & ~deadCells[layer] & ~noisyCells[layer];
+                if (seen[layer] != 0) {
+                    layersSeen++;
+                }
             }
+            cellsSeen = cellsIn(seen);
         }
 
         private void light(List<Road> roads) {
@@ -822,26 +829,16 @@ public final class TriggerHall {
             heap.choose();
         }
 
-        private int layersSeen() {
-            int layers = 0;
-            for (int bits : seen) {
-                if (bits != 0) {
-                    layers++;
-                }
-            }
-            return layers;
-        }
-
         private boolean answers(int letter, int number) {
             switch (letter) {
                 case 't':
                     return Integer.bitCount(heap.bestRoads) >= number;
                 case 'h':
-                    return cellsIn(seen) >= number;
+                    return cellsSeen >= number;
                 case 'w':
                     return heap.bestSum >= number;
                 case 'l':
-                    return layersSeen() >= number;
+                    return layersSeen >= number;
                 default:
                     return number < MOST_ROADS && (litRoads >> number & 1) == 1;
             }
