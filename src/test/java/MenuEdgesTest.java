@@ -34,6 +34,8 @@ public final class MenuEdgesTest {
         holdsAtTheNumber();
         holdsAtTheGreatestNumbers();
         holdsOfRoads();
+        holdsOfAnyAndBoth();
+        holdsOfAnotherLook();
         holdsRefusals();
         countsAreMultiples();
         ofTheOnlyKeep();
@@ -387,6 +389,52 @@ public final class MenuEdgesTest {
             DUE.is("22: r" + n + " of twelve", holding(twelve, "r" + n), n < 12 && n % 2 == 1 ? 1 : 0);
             DUE.is("22: r" + n + " of eleven", holding(eleven, "r" + n), n < 11 ? 1 : 0);
             DUE.is("22: r" + n + " of none", holding(hall -> hall.hits(0, 1), "r" + n), 0);
+        }
+    }
+
+    /** h0 holds and h1 doesn't, as nothing is seen: all three of each, with and without ! and (. */
+    private static void holdsOfAnyAndBoth() {
+        for (int n = 0; n < 8; n++) {
+            boolean a = (n & 1) == 0;
+            boolean b = (n & 2) == 0;
+            boolean c = (n & 4) == 0;
+            String ta = "h" + (n & 1);
+            String tb = "h" + (n >> 1 & 1);
+            String tc = "h" + (n >> 2);
+            together(ta + "|" + tb, a || b);
+            together(ta + "&" + tb, a && b);
+            together("!" + ta, !a);
+            together("!!" + ta, a);
+            together("!" + ta + "|" + tb, !a || b);
+            together("!" + ta + "&" + tb, !a && b);
+            together(ta + "|" + tb + "|" + tc, a || b || c);
+            together(ta + "&" + tb + "&" + tc, a && b && c);
+            together(ta + "|" + tb + "&" + tc, a || b && c);
+            together(ta + "&" + tb + "|" + tc, a && b || c);
+            together("(" + ta + "|" + tb + ")&" + tc, (a || b) && c);
+            together(ta + "&(" + tb + "|" + tc + ")", a && (b || c));
+            together("!(" + ta + "|" + tb + ")&" + tc, !(a || b) && c);
+            together("!(" + ta + "&" + tb + ")|" + tc, !(a && b) || c);
+            together(ta + "|!" + tb + "&" + tc, a || !b && c);
+        }
+    }
+
+    private static void together(String text, boolean want) {
+        DUE.is("22: " + text, holding(hall -> { }, text), want ? 1 : 0);
+    }
+
+    private static void holdsOfAnotherLook() {
+        TriggerHall hall = new TriggerHall();
+        hall.road(3, 3, 3, 3, 3, 1);
+        String[] texts = {"t1", "h1", "w1", "l1", "r0"};
+        for (String text : texts) {
+            Hall.keep(hall, text, 1);
+        }
+        for (int n = 0; n < 6; n++) {
+            hall.hits(0, n % 2);
+            for (int line = 0; line < texts.length; line++) {
+                DUE.is("22: " + texts[line] + ", look " + n, hall.holds(line), n % 2);
+            }
         }
     }
 

@@ -1,5 +1,3 @@
-import java.util.function.Consumer;
-
 /** Promises 9 to 17 at their edges: the last number that is allowed, the first that isn't, each refusal. */
 public final class RoadsEdgesTest {
     private static final Due DUE = new Due("RoadsEdgesTest");
@@ -24,6 +22,7 @@ public final class RoadsEdgesTest {
         trackOfOneLayer();
         trackOfTwoLayers();
         trackOfSeveralAlike();
+        trackToTheLastCell();
         trackRefusals();
         missOfFewLayers();
         missIsCleared();
@@ -34,8 +33,10 @@ public final class RoadsEdgesTest {
         heapOfWeightsAboutNought();
         heapOfCellsTwice();
         heapOfSeveralAlike();
+        heapOfAnotherLook();
         heapRefusals();
         blindByDeadCells();
+        blindInEachCell();
         DUE.end();
     }
 
@@ -242,6 +243,25 @@ public final class RoadsEdgesTest {
         }
     }
 
+    private static void trackToTheLastCell() {
+        for (int layer = 0; layer < 5; layer++) {
+            for (int a : new int[] {0, 5, 12}) {
+                TriggerHall hall = new TriggerHall();
+                int span = 101 * a + 3;
+                hall.road(span, span, span, span, span, 5);
+                int last = 8 << a;
+                Hall.hits(hall, last, last, last, last, last);
+                hall.hits(layer, 9 << a);
+                DUE.is("13: the last cell of a span, layer " + layer, hall.track(0, layer), a + 3);
+                DUE.is("14: in a line with the others", hall.miss(0, 0), 0);
+                int first = 1 << a;
+                Hall.hits(hall, first, first, first, first, first);
+                hall.hits(layer, 15 << a);
+                DUE.is("13: the first cell of a span, layer " + layer, hall.track(0, layer), a);
+            }
+        }
+    }
+
     private static void trackRefusals() {
         for (int none : new int[] {-1, 12, LEAST, GREATEST}) {
             TWINS.refused("13: road " + none, NUMBER, hall -> hall.track(none, 0));
@@ -440,6 +460,25 @@ public final class RoadsEdgesTest {
         heaps(one, "one lesser road over two greater ones", 0b001, 200);
     }
 
+    private static void heapOfAnotherLook() {
+        TriggerHall hall = new TriggerHall();
+        roadAt(hall, 0, 0);
+        roadAt(hall, 0, 0);
+        Hall.hits(hall, 1, 1, 1, 1, 1);
+        heaps(hall, "two that clash", 0b01, 100);
+        hall.span(1, 0, 707);
+        hall.span(1, 1, 0);
+        heaps(hall, "they don't any more", 0b11, 200);
+        roadAt(hall, 4, 0);
+        heaps(hall, "one more", 0b111, 300);
+        hall.hits(0, 0);
+        heaps(hall, "one isn't lit any more", 0b110, 200);
+        hall.mask(1, 0, 1);
+        heaps(hall, "a dead cell", 0b100, 100);
+        hall.mask(4, 1, 1);
+        heaps(hall, "a noisy cell", 0, 0);
+    }
+
     private static void heapRefusals() {
         for (int none : new int[] {-1, 3, LEAST, GREATEST}) {
             TWINS.refused("16: what " + none, NUMBER, hall -> hall.heap(none));
@@ -465,16 +504,24 @@ public final class RoadsEdgesTest {
                 DUE.is("17: dead cells stay", hall.layer(0, 2), dead > 0 ? 8 : 0);
             }
         }
-        Consumer<TriggerHall> twelve = hall -> {
-            for (int n = 0; n < 12; n++) {
-                hall.road(3, 3, 3, 3, 3, 1);
-            }
-            hall.hits(0, 1);
-            hall.mask(0, 0, 65535);
-        };
-        TriggerHall hall = new TriggerHall();
-        twelve.accept(hall);
-        DUE.is("17: all twelve", hall.blind(), 4095);
         DUE.is("17: no road", new TriggerHall().blind(), 0);
+    }
+
+    private static void blindInEachCell() {
+        for (int layer = 0; layer < 5; layer++) {
+            for (int cell = 0; cell < 16; cell++) {
+                TriggerHall hall = new TriggerHall();
+                for (int n = 0; n < 12; n++) {
+                    roadAt(hall, layer, cell);
+                }
+                hall.span(0, layer, 101 * (15 - cell));
+                hall.hits(layer, 1 << cell);
+                DUE.is("17: none is dead", hall.blind(), 0);
+                hall.mask(layer, 0, 65535);
+                DUE.is("17: cell " + cell + " of layer " + layer, hall.blind(), 4094);
+                hall.mask(layer, 1, 1 << cell);
+                DUE.is("17: dead and noisy", hall.blind(), 0);
+            }
+        }
     }
 }
