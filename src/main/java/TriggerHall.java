@@ -823,10 +823,18 @@ public final class TriggerHall {
         private void pile(List<Road> roads) {
             heap.empty();
             for (int n = 0; n < roads.size(); n++) {
-                int worth = fitAlong(roads.get(n)) ? fit.worth() : 0;
+                int worth = 0;
+                if (isLit(n)) {
+                    fit.along(roads.get(n), seen);
+                    worth = fit.worth();
+                }
                 heap.put(worth, fit.cells);
             }
             heap.choose();
+        }
+
+        private boolean isLit(int road) {
+            return road >= 0 && road < MOST_ROADS && (litRoads >> road & 1) == 1;
         }
 
         private boolean answers(int letter, int number) {
@@ -840,7 +848,7 @@ public final class TriggerHall {
                 case 'l':
                     return layersSeen >= number;
                 default:
-                    return number < MOST_ROADS && (litRoads >> number & 1) == 1;
+                    return isLit(number);
             }
         }
     }

@@ -1,20 +1,15 @@
-import java.io.IOException;
 import java.lang.reflect.Constructor;
 import java.lang.reflect.Executable;
 import java.lang.reflect.Field;
 import java.lang.reflect.Method;
 import java.lang.reflect.Modifier;
-import java.nio.file.Files;
-import java.nio.file.Path;
 import java.util.ArrayList;
 import java.util.HashSet;
 import java.util.List;
 import java.util.Set;
 import java.util.TreeSet;
-import java.util.regex.Matcher;
-import java.util.regex.Pattern;
 
-/** The public face, and the rules of the language that reflection or the source can tell. */
+/** The public face, and the rules of the language that reflection can tell. */
 public final class FaceTest {
     private static final Due DUE = new Due("FaceTest");
     private static final String INT = "int ";
@@ -26,16 +21,10 @@ public final class FaceTest {
         "many(int)", "raw(int,int)", "again(int)", "anew()"};
     private static final String[] CONSTANTS = {
         "NUMBER -1", "FULL -2", "MISSING -3", "SIZE -4", "NONE -5", "FAULT -100"};
-    private static final String[] RULED_OUT = {
-        "\\bthrow\\b", "\\btry\\b", "\\bcatch\\b", "\\bsynchronized\\b", "\\bassert\\b", "->", "::", "\\w+Exact\\b",
-        "\\bSystem\\.(?!arraycopy)", "\\b[Rr]andom\\b", "\\bThread\\b", "\\bObject\\b", "\\bpackage\\b",
-        "\\bhashCode\\b", "\\btoString\\b", "\\bprotected\\b", "\\bvar\\b",
-        "import (?!java\\.util\\.(ArrayList|List|Arrays);)"};
 
-    public static void main(String[] args) throws IOException, IllegalAccessException {
+    public static void main(String[] args) throws IllegalAccessException {
         members();
         classes();
-        source();
         DUE.end();
     }
 
@@ -103,24 +92,5 @@ public final class FaceTest {
             own += constant ? 0 : 1;
         }
         DUE.holds("at most twenty fields: " + one, own <= 20);
-    }
-
-    private static void source() throws IOException {
-        String code = Files.readString(Path.of("src/main/java/TriggerHall.java"));
-        code = code.replaceAll("(?s)/\\*.*?\\*/", "").replaceAll("//[^\n]*", "");
-        for (String rule : RULED_OUT) {
-            Matcher found = Pattern.compile(rule).matcher(code);
-            DUE.holds("nothing of " + rule, !found.find());
-        }
-        int from = -1;
-        int line = 0;
-        for (String text : code.split("\n")) {
-            line++;
-            boolean head = text.matches(" {4}( {4})?(public|private) [^=;]*\\{") && !text.contains(" class ");
-            if (head) from = line;
-            if (from < 0 || !text.matches(" {4}( {4})?}")) continue;
-            DUE.holds("a short method up to line " + line, line - from <= 60);
-            from = -1;
-        }
     }
 }
